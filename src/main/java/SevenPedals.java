@@ -689,6 +689,16 @@ public final class SevenPedals {
             markedStands &= ~Harp.bitsOf(pedal);
         }
 
+        /** Whether none of the notes rings on. */
+        boolean isSilent() {
+            for (int i = 0; i < size; i++) {
+                if (rings[i] != 0) {
+                    return false;
+                }
+            }
+            return true;
+        }
+
         /** The string of a note; -1: it is not playable. */
         int stringOf(int i, int stands) {
             int low = lowString[i];
@@ -769,7 +779,6 @@ public final class SevenPedals {
         private static final int MOST_WAYS = 1000000;
         /** More moves than any way has, and no way. */
         private static final int NEVER = 63 * MOVE;
-        private static final int UNKNOWN = -1;
         private static final int[] WEIGHTS = {1, 3, 9, 27, 81, 243, 729};
         /** From each stand how far it is to the two others. */
         private static final int[] TO_ONE_OTHER = {1, 1, -1};
@@ -780,12 +789,14 @@ public final class SevenPedals {
         private final Chord chord;
         /** For each beat and diagram the price of the beats behind it, if the diagram does. */
         private final int[][] onward;
-        /** For each beat the fewest moves in its row of onward. */
-        private final int[] fewest;
+        /** For each beat whether all diagrams have as many moves in its row of onward. */
+        private final boolean[] even;
         /** For each beat and diagram the price (without ways) of coming to it. */
         private final int[][] arrival;
-        /** For each diagram the price between the two feet, while no pedal of the right is locked. */
-        private final int[] between;
+        // rows for the reckoning of one beat alone; in two of them one foot is done with
+        private final int[] spare;
+        private final int[] leftDone;
+        private final int[] rightDone;
         private final int[] byLeft;
         private final int[] byRight;
         final int[] path;
@@ -803,9 +814,11 @@ public final class SevenPedals {
             this.part = part;
             chord = new Chord();
             onward = new int[BEATS][DIAGRAMS];
-            fewest = new int[BEATS];
+            even = new boolean[BEATS];
             arrival = new int[BEATS][DIAGRAMS];
-            between = new int[DIAGRAMS];
+            spare = new int[DIAGRAMS];
+            leftDone = new int[DIAGRAMS];
+            rightDone = new int[DIAGRAMS];
             byLeft = new int[PEDALS * STANDS];
             byRight = new int[PEDALS * STANDS];
             path = new int[BEATS];
@@ -853,11 +866,13 @@ public final class SevenPedals {
         boolean exists() {
             if (!solved) {
                 for (int b = Math.min(onwardFrom, part.played) - 1; b >= 0; b--) {
-                    fillOnward(b);
+                    chord.read(part, b);
+                    fillOnward(b, onward[b]);
+                    even[b] = isEven(onward[b]);
                 }
                 onwardFrom = 0;
                 makeArrival(0);
-                best = bestOfAll();
+                best = bestOf(arrival[0], onward[0]);
                 if (best < NEVER) {
                     trace();
                 }
@@ -920,82 +935,128 @@ public final class SevenPedals {
             makeArrival(beat);
             chord.read(part, beat);
             chord.forgetMark(pedal);
-            Arrays.fill(between, UNKNOWN);
-            int least = cost();
-            for (int d = 0; d < DIAGRAMS; d++) {
-                int locks = chord.locksBy(harp.stands[d]);
-                if (locks >= 0 && arrival[beat][d] < NEVER) {
-                    int price = arrival[beat][d] + priceFrom(beat, d, locks);
-                    least = Math.min(least, price >> MOVE_BITS);
-                }
-            }
-            return cost() - least;
+            fillOnward(beat, spare);
+            return cost() - (bestOf(arrival[beat], spare) >> MOVE_BITS);
         }
 
         // ---- the way, from its end to its beginning
 
-        private int bestOfAll() {
+        /** The best price of coming to a beat and going on from it, over all diagrams. */
+        private static int bestOf(int[] coming, int[] going) {
             int price = NEVER;
             for (int d = 0; d < DIAGRAMS; d++) {
-                price = better(price, arrival[0][d] + onward[0][d]);
-            }
-            return price;
-        }
-
-        private void fillOnward(int beat) {
-            chord.read(part, beat);
-            Arrays.fill(between, UNKNOWN);
-            int[] row = onward[beat];
-            int least = NEVER;
-            for (int d = 0; d < DIAGRAMS; d++) {
-                int locks = chord.locksBy(harp.stands[d]);
-                row[d] = locks < 0 ? NEVER : priceFrom(beat, d, locks);
-                least = Math.min(least, row[d]);
-            }
-            fewest[beat] = least >> MOVE_BITS;
-        }
-
-        /** The price of all behind a beat, from a diagram that does there. */
-        private int priceFrom(int beat, int d, int locks) {
-            if (beat >= part.played - 1) {
-                return 1;
-            }
-            int[] row = onward[beat + 1];
-            // where staying is as cheap as any diagram of the next beat, no move can be as good
-            if (row[d] >> MOVE_BITS == fewest[beat + 1]) {
-                return row[d];
-            }
-            boolean rightIsFree = (locks & RIGHT_FOOT) == 0;
-            int n = reach(d, LEFT_FOOT & ~locks, byLeft);
-            int price = NEVER;
-            for (int i = 0; i < n; i++) {
-                int m = byLeft[i];
-                boolean known = rightIsFree && between[m] != UNKNOWN;
-                int rest = known ? between[m] : bestRight(row, m, RIGHT_FOOT & ~locks);
-                if (rightIsFree) {
-                    between[m] = rest;
-                }
-                price = better(price, i == 0 ? rest : rest + MOVE);
-            }
-            return Math.min(price, NEVER);
-        }
-
-        private int bestRight(int[] row, int d, int pedals) {
-            int n = reach(d, pedals, byRight);
-            int price = row[d];
-            for (int i = 1; i < n; i++) {
-                price = better(price, row[byRight[i]] + MOVE);
+                price = better(price, coming[d] + going[d]);
             }
             return price;
         }
 
         /** Both prices in one: the fewer moves, and all ways that have so few. */
         private static int better(int a, int b) {
-            if (a >> MOVE_BITS != b >> MOVE_BITS) {
-                return Math.min(a, b);
+            boolean asManyMoves = (a ^ b) < MOVE;
+            if (!asManyMoves) {
+                return a < b ? a : b;
             }
             int ways = (a & COUNT_MASK) + (b & COUNT_MASK);
-            return (a & ~COUNT_MASK) + Math.min(ways, MOST_WAYS);
+            return (a & ~COUNT_MASK) + (ways < MOST_WAYS ? ways : MOST_WAYS);
+        }
+
+        private static boolean isEven(int[] row) {
+            for (int d = 1; d < DIAGRAMS; d++) {
+                if (row[d] >> MOVE_BITS != row[0] >> MOVE_BITS) {
+                    return false;
+                }
+            }
+            return true;
+        }
+
+        /** A row of onward for a beat; the chord is the beat's. */
+        private void fillOnward(int beat, int[] row) {
+            if (beat >= part.played - 1) {
+                Arrays.fill(row, 1);
+            } else if (even[beat + 1]) {
+                // no move is worth its price where all cost alike
+                System.arraycopy(onward[beat + 1], 0, row, 0, DIAGRAMS);
+            } else if (chord.isSilent()) {
+                spread(onward[beat + 1], RIGHT_FOOT, rightDone);
+                spread(rightDone, LEFT_FOOT, row);
+            } else {
+                fillLockedOnward(onward[beat + 1], row);
+            }
+            dropUnfit(row);
+        }
+
+        /** Diagrams that do not do for the chord have no way. */
+        private void dropUnfit(int[] row) {
+            for (int d = 0; d < DIAGRAMS; d++) {
+                if (row[d] < NEVER && chord.locksBy(harp.stands[d]) < 0) {
+                    row[d] = NEVER;
+                }
+            }
+        }
+
+        /** For each diagram the best price in from, if the foot moves one pedal or none. */
+        private static void spread(int[] from, int foot, int[] into) {
+            System.arraycopy(from, 0, into, 0, DIAGRAMS);
+            for (int p = 0; p < PEDALS; p++) {
+                if ((foot >> p & 1) != 0) {
+                    spreadPedal(from, WEIGHTS[p], into);
+                }
+            }
+        }
+
+        /**
+         * The three diagrams that differ in one pedal share the best price among them, and a move.
+         * The one that has it is not touched: with a move it is dearer than without.
+         */
+        private static void spreadPedal(int[] from, int weight, int[] into) {
+            for (int block = 0; block < DIAGRAMS; block += STANDS * weight) {
+                for (int a = block; a < block + weight; a++) {
+                    int b = a + weight;
+                    int c = b + weight;
+                    int moved = better(better(from[a], from[b]), from[c]) + MOVE;
+                    if (moved < NEVER) {
+                        into[a] = better(into[a], moved);
+                        into[b] = better(into[b], moved);
+                        into[c] = better(into[c], moved);
+                    }
+                }
+            }
+        }
+
+        /** Each diagram has locks of its own; by a foot that is free all were spread at once. */
+        private void fillLockedOnward(int[] next, int[] row) {
+            spread(next, LEFT_FOOT, leftDone);
+            spread(next, RIGHT_FOOT, rightDone);
+            for (int d = 0; d < DIAGRAMS; d++) {
+                int locks = chord.locksBy(harp.stands[d]);
+                if (locks < 0) {
+                    row[d] = NEVER;
+                } else if ((locks & RIGHT_FOOT) == 0) {
+                    row[d] = bestByFoot(rightDone, d, LEFT_FOOT & ~locks);
+                } else if ((locks & LEFT_FOOT) == 0) {
+                    row[d] = bestByFoot(leftDone, d, RIGHT_FOOT & ~locks);
+                } else {
+                    row[d] = bestByBoth(next, d, locks);
+                }
+            }
+        }
+
+        private int bestByBoth(int[] next, int d, int locks) {
+            int n = reach(d, LEFT_FOOT & ~locks, byLeft);
+            int price = bestByFoot(next, d, RIGHT_FOOT & ~locks);
+            for (int i = 1; i < n; i++) {
+                price = better(price, bestByFoot(next, byLeft[i], RIGHT_FOOT & ~locks) + MOVE);
+            }
+            return price;
+        }
+
+        private int bestByFoot(int[] from, int d, int pedals) {
+            int n = reach(d, pedals, byRight);
+            int price = from[d];
+            for (int i = 1; i < n; i++) {
+                price = better(price, from[byRight[i]] + MOVE);
+            }
+            return price;
         }
 
         /** Lists d, and behind it each diagram that d becomes when one of the pedals moves. */
@@ -1005,7 +1066,7 @@ public final class SevenPedals {
             int n = 1;
             for (int p = 0; p < PEDALS; p++) {
                 if ((pedals >> p & 1) != 0) {
-                    int stand = Harp.standIn(stands, p);
+                    int stand = stands >> 2 * p & 3;
                     into[n] = d + TO_ONE_OTHER[stand] * WEIGHTS[p];
                     into[n + 1] = d + TO_THE_OTHER[stand] * WEIGHTS[p];
                     n += 2;
@@ -1036,7 +1097,7 @@ public final class SevenPedals {
                 int k = reach(byLeft[i], RIGHT_FOOT & ~locks, byRight);
                 for (int j = 0; j < k; j++) {
                     int e = byRight[j];
-                    int moved = Math.min(i, 1) + Math.min(j, 1);
+                    int moved = (i > 0 ? 1 : 0) + (j > 0 ? 1 : 0);
                     if (e < least && moved + (onward[beat + 1][e] >> MOVE_BITS) == due) {
                         least = e;
                     }
@@ -1051,8 +1112,16 @@ public final class SevenPedals {
             for (int b = arrivalTo + 1; b <= beat; b++) {
                 if (b == 0) {
                     fillFirstArrival();
+                    continue;
+                }
+                chord.read(part, b - 1);
+                System.arraycopy(arrival[b - 1], 0, spare, 0, DIAGRAMS);
+                dropUnfit(spare);
+                if (chord.isSilent()) {
+                    spread(spare, RIGHT_FOOT, rightDone);
+                    spread(rightDone, LEFT_FOOT, arrival[b]);
                 } else {
-                    fillArrival(b);
+                    fillLockedArrival(spare, arrival[b]);
                 }
             }
             arrivalTo = Math.max(arrivalTo, beat);
@@ -1085,47 +1154,50 @@ public final class SevenPedals {
             return unlike;
         }
 
-        private void fillArrival(int beat) {
-            chord.read(part, beat - 1);
-            int[] before = arrival[beat - 1];
-            int[] row = arrival[beat];
+        /** As fillLockedOnward, but the foot that is free comes behind the other, for all at once. */
+        private void fillLockedArrival(int[] before, int[] row) {
             Arrays.fill(row, NEVER);
-            Arrays.fill(between, NEVER);
+            Arrays.fill(leftDone, NEVER);
+            Arrays.fill(rightDone, NEVER);
             for (int d = 0; d < DIAGRAMS; d++) {
-                if (before[d] < NEVER) {
-                    int locks = chord.locksBy(harp.stands[d]);
-                    if (locks >= 0) {
-                        depart(row, d, locks, before[d]);
-                    }
+                if (before[d] >= NEVER) {
+                    continue;
                 }
-            }
-            for (int d = 0; d < DIAGRAMS; d++) {
-                if (between[d] < NEVER) {
-                    spreadRight(row, d, RIGHT_FOOT, between[d]);
-                }
-            }
-        }
-
-        /** With no pedal of the right foot locked, its moves wait in between for all at once. */
-        private void depart(int[] row, int d, int locks, int price) {
-            boolean rightIsFree = (locks & RIGHT_FOOT) == 0;
-            int n = reach(d, LEFT_FOOT & ~locks, byLeft);
-            for (int i = 0; i < n; i++) {
-                int m = byLeft[i];
-                int come = i == 0 ? price : price + MOVE;
-                if (rightIsFree) {
-                    between[m] = Math.min(between[m], come);
+                int locks = chord.locksBy(harp.stands[d]);
+                if ((locks & RIGHT_FOOT) == 0) {
+                    bringByFoot(before[d], d, LEFT_FOOT & ~locks, leftDone);
+                } else if ((locks & LEFT_FOOT) == 0) {
+                    bringByFoot(before[d], d, RIGHT_FOOT & ~locks, rightDone);
                 } else {
-                    spreadRight(row, m, RIGHT_FOOT & ~locks, come);
+                    bringByBoth(before[d], d, locks, row);
                 }
+            }
+            // what was before is no longer asked for
+            spread(leftDone, RIGHT_FOOT, spare);
+            lessen(row, spare);
+            spread(rightDone, LEFT_FOOT, spare);
+            lessen(row, spare);
+        }
+
+        private void bringByBoth(int price, int d, int locks, int[] into) {
+            int n = reach(d, LEFT_FOOT & ~locks, byLeft);
+            bringByFoot(price, d, RIGHT_FOOT & ~locks, into);
+            for (int i = 1; i < n; i++) {
+                bringByFoot(price + MOVE, byLeft[i], RIGHT_FOOT & ~locks, into);
             }
         }
 
-        private void spreadRight(int[] row, int d, int pedals, int price) {
+        private void bringByFoot(int price, int d, int pedals, int[] into) {
             int n = reach(d, pedals, byRight);
-            for (int i = 0; i < n; i++) {
-                int e = byRight[i];
-                row[e] = Math.min(row[e], i == 0 ? price : price + MOVE);
+            into[d] = Math.min(into[d], price);
+            for (int i = 1; i < n; i++) {
+                into[byRight[i]] = Math.min(into[byRight[i]], price + MOVE);
+            }
+        }
+
+        private static void lessen(int[] row, int[] other) {
+            for (int d = 0; d < DIAGRAMS; d++) {
+                row[d] = Math.min(row[d], other[d]);
             }
         }
     }
