@@ -93,6 +93,10 @@ public final class HandTest {
         check.due("22 the first of two", x.hard(), 3);
         x.beats(3);
         check.due("22 only beats that are played", x.hard(), -1);
+        x.note(0, 0, natural(1), false);
+        x.note(0, 0, natural(11), false);
+        x.note(0, 0, natural(22), false);
+        check.due("22 at beat 0", x.hard(), 0);
         x.note(0, 0, 100, false);
         check.due("22 NONE", x.hard(), Check.NONE);
     }

@@ -2,7 +2,8 @@ import java.util.Random;
 
 /** Random runs of calls, the same in each test: SevenPedals and Model must answer alike. */
 public final class ModelTest {
-    private static final int RUNS = 120;
+    private static final int RUNS = 100;
+    private static final int WALKS_A_RUN = 8;
     private static final int CALLS = 160;
     private static final int[] WHITE = {0, 2, 4, 5, 7, 9, 11};
     private static final int[] ODD = {-2, -1, 12, 42, 2187, Integer.MIN_VALUE, Integer.MAX_VALUE};
@@ -26,6 +27,9 @@ public final class ModelTest {
         int runs = args.length > 0 ? Integer.parseInt(args[0]) : RUNS;
         for (int run = 0; run < runs; run++) {
             new ModelTest(check, run).calls();
+            for (int walk = 0; walk < WALKS_A_RUN; walk++) {
+                new ModelTest(check, runs + run * WALKS_A_RUN + walk).walk();
+            }
         }
         check.end();
     }
@@ -35,6 +39,10 @@ public final class ModelTest {
         for (int i = 0; i < CALLS; i++) {
             call();
         }
+        askAllOfTheWay();
+    }
+
+    private void askAllOfTheWay() {
         for (int b = 0; b < 12; b++) {
             same("diagram", x.diagram(b), y.diagram(b));
             same("left foot", x.foot(b, false), y.foot(b, false));
@@ -43,9 +51,55 @@ public final class ModelTest {
                 same("without", x.without(b, p), y.without(b, p));
             }
         }
+        same("moves", x.moves(), y.moves());
         same("ways", x.ways(), y.ways());
         same("stuck", x.stuck(), y.stuck());
         same("all", x.all(3), y.all(3));
+    }
+
+    /** A part of ringing chords, made along a walk of both feet: mostly it has a way, or nearly. */
+    private void walk() {
+        int n = 2 + random.nextInt(4);
+        int[] stands = new int[7];
+        int alike = random.nextInt(6);
+        for (int p = 0; p < 7; p++) {
+            stands[p] = alike < 3 ? alike : random.nextInt(3);
+            if (random.nextInt(8) > 0) {
+                same("start", x.start(p, stands[p]), y.start(p, stands[p]));
+            }
+        }
+        same("beats", x.beats(n), y.beats(n));
+        for (int b = 0; b < n; b++) {
+            if (random.nextInt(3) > 0) {
+                stands[new int[] {6, 0, 1}[random.nextInt(3)]] = random.nextInt(3);
+            }
+            if (random.nextInt(3) > 0) {
+                stands[2 + random.nextInt(4)] = random.nextInt(3);
+            }
+            writeBeat(b, stands);
+        }
+        askAllOfTheWay();
+        int b = random.nextInt(n);
+        same("drop", x.drop(b), y.drop(b));
+        same("moves", x.moves(), y.moves());
+        same("stuck", x.stuck(), y.stuck());
+    }
+
+    private void writeBeat(int b, int[] stands) {
+        int notes = random.nextInt(4);
+        for (int i = 0; i < notes; i++) {
+            int string = random.nextInt(42);
+            int kind = random.nextInt(4);
+            int above = kind == 1 ? 12 : kind == 3 ? 19 : 0;
+            int pitch = 12 * (string / 7) + WHITE[string % 7] + stands[string % 7] - 1 + above;
+            boolean rings = random.nextInt(4) > 0;
+            same("note", x.note(b, kind, pitch, rings), y.note(b, kind, pitch, rings));
+        }
+        for (int p = 0; p < 7; p++) {
+            if (random.nextInt(3) == 0) {
+                same("mark", x.mark(b, p, stands[p]), y.mark(b, p, stands[p]));
+            }
+        }
     }
 
     /** In every other run the pedals are told how to stand, and marked otherwise at two beats. */

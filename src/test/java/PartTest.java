@@ -153,6 +153,15 @@ public final class PartTest {
         check.due("7 SIZE", x.shift(-1), Check.SIZE);
         check.due("7 kinds stay", x.of(11, 0, 0), 3);
         check.due("7 rings stay", x.of(11, 0, 2), 1);
+        for (int i = 0; i < 5; i++) {
+            x.note(11, 0, 90, false);
+        }
+        check.due("7 a full beat", x.shift(10), 7);
+        check.due("7 its last note", x.of(11, 5, 1), 100);
+        x.undo();
+        for (int i = 0; i < 5; i++) {
+            x.drop(11);
+        }
         x.drop(0);
         check.due("7 notes that went do not hinder", x.shift(-12), 1);
     }

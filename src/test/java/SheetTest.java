@@ -148,6 +148,9 @@ public final class SheetTest {
         check.due("28 sheet 4", x.tune(4), Check.BEYOND);
         check.due("28 sheet -1", x.tune(-1), Check.BEYOND);
         check.due("28 MISSING", x.tune(1), Check.MISSING);
+        x.put(0, 0, 101);
+        x.put(0, 2, 0);
+        check.due("28 BEYOND, the first", x.tune(0), Check.BEYOND);
         x.sheet(1, 32, 13);
         x.put(1, 0, 101);
         check.due("28 SIZE ahead of BEYOND", x.tune(1), Check.SIZE);

@@ -13,6 +13,8 @@ public final class WayTest {
         stuck();
         without();
         afterChanges();
+        firstAndLastDiagram();
+        oneDiagramAlone();
         check.end();
     }
 
@@ -257,10 +259,66 @@ public final class WayTest {
         check.due("20 KIND ahead of NONE", x.without(1, 1), Check.KIND);
     }
 
+    /** All pedals at stand 0, then all at stand 2: the ends of every row of diagrams. */
+    private static void firstAndLastDiagram() {
+        for (int stand = 0; stand <= 2; stand += 2) {
+            int diagram = stand == 0 ? 0 : 2186;
+            SevenPedals x = withAllStarts(stand);
+            x.beats(4);
+            for (int b = 0; b < 4; b++) {
+                for (int p = 0; p < 7; p++) {
+                    x.mark(b, p, stand);
+                }
+                // D and A, each on one string alone: a pedal of each foot is locked
+                x.note(b, 0, 26 + stand - 1, b < 2);
+                x.note(b, 0, 33 + stand - 1, b == 1);
+            }
+            check.due("14 at rest", x.moves(), 0);
+            check.due("18 one way", x.ways(), 1);
+            for (int b = 0; b < 4; b++) {
+                check.due("15 diagram", x.diagram(b), diagram);
+                check.due("20 no move to spare", x.without(b, 1), 0);
+            }
+            x.note(3, 0, 100, false);
+            check.due("19 stuck at the last", x.stuck(), 3);
+            x.drop(3);
+            x.mark(2, 1, 2 - stand);
+            check.due("19 stuck at the locked one", x.stuck(), 2);
+        }
+    }
+
+    /** At beat 1 one diagram alone does, and none of the others is as dear. */
+    private static void oneDiagramAlone() {
+        for (int stand = 0; stand <= 2; stand++) {
+            SevenPedals x = new SevenPedals();
+            x.beats(2);
+            x.mark(1, 0, stand);
+            for (int p = 1; p < 7; p++) {
+                x.mark(1, p, 0);
+            }
+            x.mark(0, 0, (stand + 1) % 3);
+            x.mark(0, 2, 1);
+            check.due("13 one does", x.many(1), 1);
+            check.due("14 both feet move", x.moves(), 2);
+            check.due("15 from here", x.diagram(0), (stand + 1) % 3 + 9);
+            check.due("15 to there", x.diagram(1), stand);
+            check.due("18 one way", x.ways(), 1);
+        }
+    }
+
     /** Answers that are kept inside must go with each change that concerns them. */
     private static void afterChanges() {
         SevenPedals x = withAllStarts(1);
         check.due("moves", x.moves(), 0);
+        x.note(11, 0, 24, false);
+        x.beats(12);
+        check.due("after beats", x.moves(), 0);
+        x.shift(1);
+        check.due("after shift of the last beat", x.moves(), 1);
+        x.undo();
+        x.beats(8);
+        x.drop(11);
+        check.due("after drop", x.moves(), 0);
         x.note(7, 0, 25, false);
         check.due("after note", x.moves(), 1);
         x.drop(7);
