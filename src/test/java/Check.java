@@ -9,12 +9,18 @@ final class Check {
 
     private int asked = 0;
     private int wrong = 0;
+    private String sentence = "";
+
+    /** The sentence of the document that the next answers are asked for: promise 0 is the Terms. */
+    void says(int promise, String words) {
+        sentence = promise + " \"" + words + "\" ";
+    }
 
     void due(String call, int got, int want) {
         asked++;
         if (got != want) {
             wrong++;
-            System.out.println(call + " answered " + got + ", due is " + want);
+            System.out.println(sentence + call + " answered " + got + ", due is " + want);
         }
     }
 
