@@ -3,12 +3,6 @@ public final class EdgePartTest {
     private static final Check check = new Check();
     private static final int MIN = Integer.MIN_VALUE;
     private static final int MAX = Integer.MAX_VALUE;
-    /** Numbers that are no beat; and so for the others. */
-    private static final int[] NO_BEATS = {MIN, -1, 12, 13, MAX};
-    private static final int[] NO_KINDS = {MIN, -1, 4, 5, MAX};
-    private static final int[] NO_PITCHES = {MIN, -2, 101, 102, MAX};
-    private static final int[] NO_PEDALS = {MIN, -1, 7, 8, MAX};
-    private static final int[] NO_STANDS = {MIN, -2, 3, 4, MAX};
 
     public static void main(String[] args) {
         newObject();
@@ -126,13 +120,13 @@ public final class EdgePartTest {
     private static void noteBeyond() {
         check.says(3, "BEYOND: no such BEAT, kind, or PITCH.");
         SevenPedals x = new SevenPedals();
-        for (int beat : NO_BEATS) {
+        for (int beat : Given.NO_BEATS) {
             check.due("beat " + beat, x.note(beat, 0, 0, true), Check.BEYOND);
         }
-        for (int kind : NO_KINDS) {
+        for (int kind : Given.NO_KINDS) {
             check.due("kind " + kind, x.note(0, kind, 0, true), Check.BEYOND);
         }
-        for (int pitch : NO_PITCHES) {
+        for (int pitch : Given.NO_PITCHES) {
             check.due("pitch " + pitch, x.note(0, 0, pitch, true), Check.BEYOND);
         }
         check.due("no note", x.all(1), 0);
@@ -153,13 +147,13 @@ public final class EdgePartTest {
         check.due("there is no seventh", x.of(4, 6, 1), Check.BEYOND);
         check.due("the next beat is not full", x.note(5, 0, 0, false), 0);
         check.due("the beat ahead is not full", x.note(3, 0, 0, false), 0);
-        for (int beat : NO_BEATS) {
+        for (int beat : Given.NO_BEATS) {
             check.due("BEYOND goes first, beat " + beat, x.note(beat, 0, 0, true), Check.BEYOND);
         }
-        for (int kind : NO_KINDS) {
+        for (int kind : Given.NO_KINDS) {
             check.due("BEYOND goes first, kind " + kind, x.note(4, kind, 0, true), Check.BEYOND);
         }
-        for (int pitch : NO_PITCHES) {
+        for (int pitch : Given.NO_PITCHES) {
             check.due("BEYOND goes first, pitch " + pitch, x.note(4, 0, pitch, true), Check.BEYOND);
         }
         check.due("drop", x.drop(4), 5);
@@ -189,7 +183,7 @@ public final class EdgePartTest {
     private static void dropFindings() {
         check.says(4, "BEYOND.");
         SevenPedals x = new SevenPedals();
-        for (int beat : NO_BEATS) {
+        for (int beat : Given.NO_BEATS) {
             check.due("beat " + beat, x.drop(beat), Check.BEYOND);
         }
         check.says(4, "NONE: it has none.");
@@ -224,13 +218,13 @@ public final class EdgePartTest {
         SevenPedals x = new SevenPedals();
         check.due("an empty beat", x.as(0, 0, 0), Check.BEYOND);
         x.note(0, 2, 33, false);
-        for (int beat : NO_BEATS) {
+        for (int beat : Given.NO_BEATS) {
             check.due("beat " + beat, x.as(beat, 0, 0), Check.BEYOND);
         }
         for (int note : new int[] {MIN, -1, 1, 6, MAX}) {
             check.due("note " + note, x.as(0, note, 0), Check.BEYOND);
         }
-        for (int kind : NO_KINDS) {
+        for (int kind : Given.NO_KINDS) {
             check.due("kind " + kind, x.as(0, 0, kind), Check.BEYOND);
         }
         check.says(5, "KIND: it is not of that kind, nor of one under it.");
@@ -271,7 +265,7 @@ public final class EdgePartTest {
             check.due("an empty beat", x.of(0, 0, what), Check.BEYOND);
         }
         x.note(0, 0, 5, false);
-        for (int beat : NO_BEATS) {
+        for (int beat : Given.NO_BEATS) {
             check.due("beat " + beat, x.of(beat, 0, 1), Check.BEYOND);
         }
         for (int note : new int[] {MIN, -1, 1, 6, MAX}) {
@@ -382,15 +376,15 @@ public final class EdgePartTest {
         check.due("no finding", x.all(3), 0);
         check.says(8, "BEYOND.");
         SevenPedals y = new SevenPedals();
-        for (int beat : NO_BEATS) {
+        for (int beat : Given.NO_BEATS) {
             check.due("beat " + beat, y.mark(beat, 0, 0), Check.BEYOND);
             check.due("beat " + beat + ", none", y.mark(beat, 0, -1), Check.BEYOND);
         }
-        for (int pedal : NO_PEDALS) {
+        for (int pedal : Given.NO_PEDALS) {
             check.due("pedal " + pedal, y.mark(0, pedal, 0), Check.BEYOND);
             check.due("pedal " + pedal + " of the last beat", y.mark(11, pedal, -1), Check.BEYOND);
         }
-        for (int stand : NO_STANDS) {
+        for (int stand : Given.NO_STANDS) {
             check.due("stand " + stand, y.mark(0, 0, stand), Check.BEYOND);
         }
         check.due("no mark", y.all(2), 0);
@@ -414,11 +408,11 @@ public final class EdgePartTest {
         check.due("no finding", x.all(3), 0);
         check.says(9, "BEYOND.");
         SevenPedals y = new SevenPedals();
-        for (int pedal : NO_PEDALS) {
+        for (int pedal : Given.NO_PEDALS) {
             check.due("pedal " + pedal, y.start(pedal, 0), Check.BEYOND);
             check.due("pedal " + pedal + ", none", y.start(pedal, -1), Check.BEYOND);
         }
-        for (int stand : NO_STANDS) {
+        for (int stand : Given.NO_STANDS) {
             check.due("stand " + stand, y.start(6, stand), Check.BEYOND);
         }
         check.due("nothing to undo", y.undo(), Check.NONE);

@@ -3,9 +3,6 @@ public final class EdgeRowsTest {
     private static final Check check = new Check();
     private static final int MIN = Integer.MIN_VALUE;
     private static final int MAX = Integer.MAX_VALUE;
-    private static final int[] NO_STRINGS = {MIN, -1, 42, 43, MAX};
-    private static final int[] NO_DIAGRAMS = {MIN, -1, 2187, 2188, MAX};
-    private static final int[] NO_SHEETS = {MIN, -1, 4, 5, MAX};
 
     public static void main(String[] args) {
         run();
@@ -46,12 +43,12 @@ public final class EdgeRowsTest {
         check.due("of one string", x.run(0, 0, 0, 0), -1);
         check.due("no finding", x.all(3), 0);
         check.says(23, "BEYOND: no such STRINGS, DIAGRAM, or place in it.");
-        for (int string : NO_STRINGS) {
+        for (int string : Given.NO_STRINGS) {
             check.due("from " + string, x.run(string, 0, 0, 0), Check.BEYOND);
             check.due("to " + string, x.run(0, string, 0, 0), Check.BEYOND);
             check.due("from and to " + string, x.run(string, string, 0, 0), Check.BEYOND);
         }
-        for (int diagram : NO_DIAGRAMS) {
+        for (int diagram : Given.NO_DIAGRAMS) {
             check.due("diagram " + diagram, x.run(0, 41, diagram, 0), Check.BEYOND);
         }
         for (int i : new int[] {MIN, -1, 42, MAX}) {
@@ -80,11 +77,11 @@ public final class EdgeRowsTest {
         check.due("but not within an octave", x.plain(7, 13, bAsC), 7);
         check.due("B sharp and the next C", x.plain(13, 14, bAsC), 1);
         check.says(24, "BEYOND.");
-        for (int string : NO_STRINGS) {
+        for (int string : Given.NO_STRINGS) {
             check.due("from " + string, x.plain(string, 0, 0), Check.BEYOND);
             check.due("to " + string, x.plain(0, string, 0), Check.BEYOND);
         }
-        for (int diagram : NO_DIAGRAMS) {
+        for (int diagram : Given.NO_DIAGRAMS) {
             check.due("diagram " + diagram, x.plain(0, 41, diagram), Check.BEYOND);
         }
     }
@@ -144,7 +141,7 @@ public final class EdgeRowsTest {
         SevenPedals x = new SevenPedals();
         x.sheet(0, 8, 3);
         x.put(0, 2, 5);
-        for (int s : NO_SHEETS) {
+        for (int s : Given.NO_SHEETS) {
             check.due("sheet " + s, x.sheet(s, 8, 1), Check.BEYOND);
             check.due("ahead of SIZE, sheet " + s, x.sheet(s, 8, -1), Check.BEYOND);
         }
@@ -195,7 +192,7 @@ public final class EdgeRowsTest {
     private static void putFindings() {
         check.says(26, "BEYOND: no such sheet.");
         SevenPedals x = new SevenPedals();
-        for (int s : NO_SHEETS) {
+        for (int s : Given.NO_SHEETS) {
             check.due("sheet " + s, x.put(s, 0, 0), Check.BEYOND);
         }
         check.says(26, "MISSING.");
@@ -275,7 +272,7 @@ public final class EdgeRowsTest {
         x.sheet(0, 8, 5);
         x.sheet(1, 16, 5);
         x.sheet(2, 32, 5);
-        for (int s : NO_SHEETS) {
+        for (int s : Given.NO_SHEETS) {
             check.due("from sheet " + s, x.copy(s, 0, 0, 0, 1), Check.BEYOND);
             check.due("to sheet " + s, x.copy(0, 0, s, 0, 1), Check.BEYOND);
             check.due("ahead of MISSING, " + s, x.copy(3, 0, s, 0, 1), Check.BEYOND);
@@ -379,7 +376,7 @@ public final class EdgeRowsTest {
         check.says(28, "BEYOND: no such sheet.");
         SevenPedals x = new SevenPedals();
         x.note(0, 1, 44, true);
-        for (int s : NO_SHEETS) {
+        for (int s : Given.NO_SHEETS) {
             check.due("sheet " + s, x.tune(s), Check.BEYOND);
         }
         check.says(28, "MISSING.");

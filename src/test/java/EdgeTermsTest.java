@@ -3,7 +3,6 @@ public final class EdgeTermsTest {
     private static final Check check = new Check();
     private static final int MIN = Integer.MIN_VALUE;
     private static final int MAX = Integer.MAX_VALUE;
-    private static final int[] WHITE = {0, 2, 4, 5, 7, 9, 11};
     private static final int[] WEIGHT = {1, 3, 9, 27, 81, 243, 729};
 
     public static void main(String[] args) {
@@ -36,26 +35,6 @@ public final class EdgeTermsTest {
         check.end();
     }
 
-    private static SevenPedals started(int stand) {
-        SevenPedals x = new SevenPedals();
-        for (int p = 0; p < 7; p++) {
-            x.start(p, stand);
-        }
-        return x;
-    }
-
-    private static int natural(int string) {
-        return 12 * (string / 7) + WHITE[string % 7];
-    }
-
-    private static SevenPedals chord(int... strings) {
-        SevenPedals x = new SevenPedals();
-        for (int s : strings) {
-            x.note(0, 0, natural(s), false);
-        }
-        return x;
-    }
-
     private static void findings() {
         check.says(0, "FINDINGS are answers below -99999: -100001 BEYOND, -100002 MISSING, -100003 SIZE, "
             + "-100004 KIND, -100005 FULL, -100006 NONE.");
@@ -83,7 +62,7 @@ public final class EdgeTermsTest {
         check.due("string 42", x.pitch(42, 0), Check.BEYOND);
         for (int s = 0; s < 42; s++) {
             for (int p = 0; p < 7; p++) {
-                int want = natural(s) + (s % 7 == p ? 1 : 0);
+                int want = Given.natural(s) + (s % 7 == p ? 1 : 0);
                 check.due("string " + s + ", pedal " + p + " up", x.pitch(s, 1093 + WEIGHT[p]), want);
             }
         }
@@ -121,7 +100,7 @@ public final class EdgeTermsTest {
         check.says(0, "6, 0, 1 are of the LEFT FOOT, 2, 3, 4, 5 of the RIGHT.");
         for (int p = 0; p < 7; p++) {
             for (int q = p + 1; q < 7; q++) {
-                SevenPedals x = started(1);
+                SevenPedals x = Given.started(1);
                 x.mark(0, p, 0);
                 x.mark(0, q, 2);
                 boolean sameFoot = (p == 6 || p < 2) == (q == 6 || q < 2);
@@ -200,7 +179,7 @@ public final class EdgeTermsTest {
         check.says(0, "it RINGS over the next BEAT, or not (MUTED ones never do)");
         for (int kind = 0; kind < 4; kind++) {
             int above = kind == 1 ? 12 : kind == 3 ? 19 : 0;
-            SevenPedals x = started(1);
+            SevenPedals x = Given.started(1);
             x.note(0, kind, 26 + above, true);
             x.mark(1, 1, 2);
             check.due("kind " + kind, x.of(0, 0, 2), kind == 2 ? 0 : 1);
@@ -209,7 +188,7 @@ public final class EdgeTermsTest {
             x.mark(2, 1, 2);
             check.due("kind " + kind + " no longer", x.moves(), 1);
         }
-        SevenPedals x = started(1);
+        SevenPedals x = Given.started(1);
         x.beats(2);
         x.note(1, 0, 25, true);
         check.due("not over the move that comes to it", x.moves(), 1);
@@ -224,12 +203,12 @@ public final class EdgeTermsTest {
         check.says(0, "and none with a LETTER of a NOTE that RINGS from the BEAT ahead.");
         for (int p = 0; p < 7; p++) {
             for (int octave = 0; octave < 6; octave++) {
-                SevenPedals x = started(1);
+                SevenPedals x = Given.started(1);
                 x.beats(2);
                 for (int q = 0; q < 7; q++) {
                     x.mark(0, q, 1);
                 }
-                x.note(0, 0, natural(7 * octave + p), true);
+                x.note(0, 0, Given.natural(7 * octave + p), true);
                 for (int q = 0; q < 7; q++) {
                     x.mark(1, q, 2);
                     check.due("letter " + p + " rings, " + q + " moves", x.moves(), q == p ? Check.NONE : 1);
@@ -301,11 +280,11 @@ public final class EdgeTermsTest {
         for (int p = 0; p < 7; p++) {
             int q = (p + 1) % 7;
             int string = 14 + p;
-            int gap = natural(string + 1) - natural(string);
+            int gap = Given.natural(string + 1) - Given.natural(string);
             for (int up = gap; up < 3; up++) {
                 int down = up - gap;
                 int both = 1093 + (up - 1) * WEIGHT[p] + (down - 1) * WEIGHT[q];
-                x.note(0, 0, natural(string) + up - 1, false);
+                x.note(0, 0, Given.natural(string) + up - 1, false);
                 check.due("letters " + p + " and " + q + " alike", x.string(0, 0, both), string);
                 check.due("and on it alone", x.does(0, both), 1);
                 int other = both - WEIGHT[p];
@@ -339,11 +318,11 @@ public final class EdgeTermsTest {
         SevenPedals x = new SevenPedals();
         check.due("no notes, no marks", x.does(0, 0), 1);
         for (int i = 0; i < 6; i++) {
-            x.note(0, 0, natural(6 * i), false);
+            x.note(0, 0, Given.natural(6 * i), false);
         }
         check.due("six", x.does(0, 1093), 1);
         x.drop(0);
-        x.note(0, 2, natural(0), false);
+        x.note(0, 2, Given.natural(0), false);
         check.due("the first and the last on one", x.does(0, 1093), 0);
         x.drop(0);
         x.note(0, 0, 100, false);
@@ -373,7 +352,7 @@ public final class EdgeTermsTest {
         int[][] feet = {{6, 0, 1}, {2, 3, 4, 5}};
         for (int[] foot : feet) {
             for (int n = 1; n <= foot.length; n++) {
-                SevenPedals x = started(0);
+                SevenPedals x = Given.started(0);
                 for (int i = 0; i < n; i++) {
                     x.mark(n - 1, foot[i], 2);
                 }
@@ -382,7 +361,7 @@ public final class EdgeTermsTest {
                     x.mark(n - 2, foot[0], 2);
                     check.due("one of them ahead of the others", x.moves(), n);
                 }
-                SevenPedals y = started(0);
+                SevenPedals y = Given.started(0);
                 for (int i = 0; i < n && n > 1; i++) {
                     y.mark(n - 2, foot[i], 2);
                 }
@@ -402,7 +381,7 @@ public final class EdgeTermsTest {
     private static void firstBeat() {
         check.says(0, "The first BEAT'S DIAGRAM has PEDALS as START tells, but that each FOOT may have moved one "
             + "(each that differs is a move; those that START does not tell cost nothing).");
-        SevenPedals x = started(1);
+        SevenPedals x = Given.started(1);
         x.beats(1);
         check.due("none differs", x.moves(), 0);
         check.due("one way", x.ways(), 1);
@@ -420,7 +399,7 @@ public final class EdgeTermsTest {
         check.due("ways of those that are told", x.ways(), 1);
         x.start(0, -1);
         check.due("ways of one that is not", x.ways(), 3);
-        SevenPedals y = started(1);
+        SevenPedals y = Given.started(1);
         y.note(0, 0, 26, true);
         y.start(1, 2);
         check.due("nothing rings ahead of beat 0", y.moves(), 1);
@@ -428,7 +407,7 @@ public final class EdgeTermsTest {
 
     private static void movesOfAWay() {
         check.says(0, "MOVES of a WAY: how many PEDALS moved in all.");
-        SevenPedals x = started(0);
+        SevenPedals x = Given.started(0);
         for (int b = 0; b < 8; b++) {
             x.mark(b, 0, b % 2 * 2);
         }
@@ -447,19 +426,19 @@ public final class EdgeTermsTest {
         SevenPedals x = new SevenPedals();
         check.due("of all the least", x.diagram(0), 0);
         check.due("to the end", x.diagram(7), 0);
-        x = started(0);
+        x = Given.started(0);
         x.mark(7, 0, 1);
         check.due("up as late as may be", x.diagram(6), 0);
         check.due("then", x.diagram(7), 1);
-        x = started(1);
+        x = Given.started(1);
         x.mark(7, 0, 0);
         check.due("down at once", x.diagram(0), 1092);
-        x = started(1);
+        x = Given.started(1);
         x.mark(7, 6, 0);
         x.mark(7, 0, 0);
         check.due("the greater weight first", x.diagram(0), 1093 - 729);
         check.due("then the other", x.diagram(1), 1092 - 729);
-        x = started(0);
+        x = Given.started(0);
         x.mark(7, 6, 1);
         x.mark(7, 0, 1);
         check.due("the lesser weight first", x.diagram(6), 1);
@@ -481,7 +460,7 @@ public final class EdgeTermsTest {
             x.note(0, 0, 73, false);
             check.due("beat " + b + ", and the first", x.stuck(), 0);
         }
-        SevenPedals x = started(0);
+        SevenPedals x = Given.started(0);
         x.mark(2, 2, 1);
         x.mark(2, 3, 1);
         x.mark(2, 4, 1);
@@ -494,44 +473,44 @@ public final class EdgeTermsTest {
 
     private static void fingers() {
         check.says(0, "a HAND has four FINGERS (a HARMONIC, or HIGH one, takes two)");
-        check.due("four", chord(10, 11, 12, 13).split(0, 1093), 0);
-        check.due("five", chord(10, 11, 12, 13, 14).split(0, 1093), 1);
+        check.due("four", Given.chord(10, 11, 12, 13).split(0, 1093), 0);
+        check.due("five", Given.chord(10, 11, 12, 13, 14).split(0, 1093), 1);
         int[] above = {0, 12, 0, 19};
         for (int kind = 0; kind < 4; kind++) {
             boolean two = above[kind] > 0;
-            SevenPedals x = chord(10, 11);
-            x.note(0, kind, natural(12) + above[kind], false);
+            SevenPedals x = Given.chord(10, 11);
+            x.note(0, kind, Given.natural(12) + above[kind], false);
             check.due("two and one of kind " + kind, x.split(0, 1093), 0);
-            x.note(0, kind, natural(13) + above[kind], false);
+            x.note(0, kind, Given.natural(13) + above[kind], false);
             check.due("two and two of kind " + kind, x.split(0, 1093), two ? 2 : 0);
-            x.note(0, kind, natural(14) + above[kind], false);
+            x.note(0, kind, Given.natural(14) + above[kind], false);
             check.due("two and three of kind " + kind, x.split(0, 1093), two ? 3 : 1);
-            x.note(0, kind, natural(15) + above[kind], false);
+            x.note(0, kind, Given.natural(15) + above[kind], false);
             check.due("two and four of kind " + kind, x.split(0, 1093), two ? Check.NONE : 2);
         }
     }
 
     private static void spans() {
         check.says(0, "its highest STRING is at most 9 above its lowest.");
-        check.due("the right hand, 9", chord(0, 9).split(0, 1093), 0);
-        check.due("the right hand, 10", chord(0, 10).split(0, 1093), 1);
-        check.due("the left hand, 9", chord(0, 9, 20).split(0, 1093), 2);
-        check.due("the left hand, 10", chord(0, 10, 20).split(0, 1093), Check.NONE);
-        check.due("both, 9", chord(0, 9, 32, 41).split(0, 1093), 2);
-        check.due("the upper 10", chord(0, 9, 31, 41).split(0, 1093), Check.NONE);
-        check.due("the lower 10", chord(0, 10, 32, 41).split(0, 1093), Check.NONE);
-        check.due("one in each hand", chord(0, 41).split(0, 1093), 1);
+        check.due("the right hand, 9", Given.chord(0, 9).split(0, 1093), 0);
+        check.due("the right hand, 10", Given.chord(0, 10).split(0, 1093), 1);
+        check.due("the left hand, 9", Given.chord(0, 9, 20).split(0, 1093), 2);
+        check.due("the left hand, 10", Given.chord(0, 10, 20).split(0, 1093), Check.NONE);
+        check.due("both, 9", Given.chord(0, 9, 32, 41).split(0, 1093), 2);
+        check.due("the upper 10", Given.chord(0, 9, 31, 41).split(0, 1093), Check.NONE);
+        check.due("the lower 10", Given.chord(0, 10, 32, 41).split(0, 1093), Check.NONE);
+        check.due("one in each hand", Given.chord(0, 41).split(0, 1093), 1);
     }
 
     private static void split() {
         check.says(0, "SPLIT: the least number of STRINGS for the LEFT HAND by which both can.");
-        check.due("none at all", chord().split(0, 1093), 0);
-        check.due("one, for the right", chord(20).split(0, 1093), 0);
-        check.due("one below the others", chord(0, 10, 11, 12).split(0, 1093), 1);
-        check.due("four below two", chord(0, 1, 2, 3, 40, 41).split(0, 1093), 4);
-        check.due("five below one", chord(0, 1, 2, 3, 4, 41).split(0, 1093), Check.NONE);
-        check.due("one below five", chord(0, 37, 38, 39, 40, 41).split(0, 1093), Check.NONE);
-        check.due("two below four", chord(0, 1, 38, 39, 40, 41).split(0, 1093), 2);
+        check.due("none at all", Given.chord().split(0, 1093), 0);
+        check.due("one, for the right", Given.chord(20).split(0, 1093), 0);
+        check.due("one below the others", Given.chord(0, 10, 11, 12).split(0, 1093), 1);
+        check.due("four below two", Given.chord(0, 1, 2, 3, 40, 41).split(0, 1093), 4);
+        check.due("five below one", Given.chord(0, 1, 2, 3, 4, 41).split(0, 1093), Check.NONE);
+        check.due("one below five", Given.chord(0, 37, 38, 39, 40, 41).split(0, 1093), Check.NONE);
+        check.due("two below four", Given.chord(0, 1, 38, 39, 40, 41).split(0, 1093), 2);
     }
 
     private static void runs() {

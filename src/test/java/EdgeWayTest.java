@@ -3,14 +3,8 @@ public final class EdgeWayTest {
     private static final Check check = new Check();
     private static final int MIN = Integer.MIN_VALUE;
     private static final int MAX = Integer.MAX_VALUE;
-    private static final int[] NO_BEATS = {MIN, -1, 12, 13, MAX};
-    private static final int[] NO_PEDALS = {MIN, -1, 7, 8, MAX};
-    private static final int[] NO_DIAGRAMS = {MIN, -1, 2187, 2188, MAX};
-    private static final int[] NO_STRINGS = {MIN, -1, 42, 43, MAX};
     private static final int[] LEFT = {6, 0, 1};
     private static final int[] RIGHT = {2, 3, 4, 5};
-    /** Above the pitch of all strings. */
-    private static final int TOO_HIGH = 73;
 
     public static void main(String[] args) {
         pitch();
@@ -39,14 +33,6 @@ public final class EdgeWayTest {
         check.end();
     }
 
-    private static SevenPedals started(int stand) {
-        SevenPedals x = new SevenPedals();
-        for (int p = 0; p < 7; p++) {
-            x.start(p, stand);
-        }
-        return x;
-    }
-
     private static void pitch() {
         check.says(10, "PITCH of a STRING by a DIAGRAM.");
         SevenPedals x = new SevenPedals();
@@ -56,10 +42,10 @@ public final class EdgeWayTest {
         check.due("string 7 by it", x.pitch(7, 1458), 11);
         check.due("no finding", x.all(3), 0);
         check.says(10, "BEYOND: no such STRING, or DIAGRAM (0 to 2186).");
-        for (int string : NO_STRINGS) {
+        for (int string : Given.NO_STRINGS) {
             check.due("string " + string, x.pitch(string, 0), Check.BEYOND);
         }
-        for (int diagram : NO_DIAGRAMS) {
+        for (int diagram : Given.NO_DIAGRAMS) {
             check.due("diagram " + diagram, x.pitch(0, diagram), Check.BEYOND);
         }
         check.due("both", x.pitch(42, 2187), Check.BEYOND);
@@ -83,14 +69,14 @@ public final class EdgeWayTest {
         check.says(11, "BEYOND: no such BEAT, NOTE, or DIAGRAM.");
         SevenPedals x = new SevenPedals();
         check.due("an empty beat", x.string(0, 0, 0), Check.BEYOND);
-        x.note(0, 0, TOO_HIGH, false);
-        for (int beat : NO_BEATS) {
+        x.note(0, 0, Given.TOO_HIGH, false);
+        for (int beat : Given.NO_BEATS) {
             check.due("beat " + beat, x.string(beat, 0, 0), Check.BEYOND);
         }
         for (int note : new int[] {MIN, -1, 1, 6, MAX}) {
             check.due("note " + note, x.string(0, note, 0), Check.BEYOND);
         }
-        for (int diagram : NO_DIAGRAMS) {
+        for (int diagram : Given.NO_DIAGRAMS) {
             check.due("BEYOND goes ahead of NONE, diagram " + diagram, x.string(0, 0, diagram), Check.BEYOND);
         }
         check.says(11, "NONE: it is not PLAYABLE.");
@@ -117,10 +103,10 @@ public final class EdgeWayTest {
         check.due("the first diagram", x.does(11, 0), 0);
         check.due("0 is no finding", x.all(3), 0);
         check.says(12, "BEYOND.");
-        for (int beat : NO_BEATS) {
+        for (int beat : Given.NO_BEATS) {
             check.due("beat " + beat, x.does(beat, 0), Check.BEYOND);
         }
-        for (int diagram : NO_DIAGRAMS) {
+        for (int diagram : Given.NO_DIAGRAMS) {
             check.due("diagram " + diagram, x.does(0, diagram), Check.BEYOND);
         }
     }
@@ -141,14 +127,14 @@ public final class EdgeWayTest {
         check.due("none", x.many(0), 0);
         check.due("0 is no finding", x.all(3), 0);
         check.says(13, "BEYOND.");
-        for (int beat : NO_BEATS) {
+        for (int beat : Given.NO_BEATS) {
             check.due("beat " + beat, x.many(beat), Check.BEYOND);
         }
     }
 
     private static void moves() {
         check.says(14, "MOVES of THE WAY.");
-        SevenPedals x = started(1);
+        SevenPedals x = Given.started(1);
         check.due("none", x.moves(), 0);
         x.beats(12);
         for (int b = 0; b < 12; b++) {
@@ -160,7 +146,7 @@ public final class EdgeWayTest {
         check.due("both feet at one beat", x.moves(), 2);
         check.due("0 and others are no findings", x.all(3), 0);
         check.says(14, "NONE: there is none.");
-        x.note(1, 0, TOO_HIGH, false);
+        x.note(1, 0, Given.TOO_HIGH, false);
         check.due("a beat that is not played", x.moves(), 2);
         x.beats(2);
         check.due("now it is", x.moves(), Check.NONE);
@@ -178,12 +164,12 @@ public final class EdgeWayTest {
             check.due("the last of " + n, x.diagram(n - 1), 0);
             check.due("behind the last of " + n, x.diagram(n), Check.BEYOND);
         }
-        for (int beat : NO_BEATS) {
+        for (int beat : Given.NO_BEATS) {
             check.due("beat " + beat, x.diagram(beat), Check.BEYOND);
         }
         check.says(15, "NONE.");
         x.beats(2);
-        x.note(1, 0, TOO_HIGH, false);
+        x.note(1, 0, Given.TOO_HIGH, false);
         check.due("beat 0, though it could be played alone", x.diagram(0), Check.NONE);
         check.due("beat 1", x.diagram(1), Check.NONE);
         check.due("BEYOND goes first", x.diagram(2), Check.BEYOND);
@@ -191,7 +177,7 @@ public final class EdgeWayTest {
         x.beats(1);
         check.due("it is not played: there is a way", x.diagram(0), 0);
         check.says(15, "The DIAGRAM of THE WAY at a BEAT.");
-        SevenPedals y = started(2);
+        SevenPedals y = Given.started(2);
         check.due("the last of all", y.diagram(0), 2186);
         check.due("to the end", y.diagram(7), 2186);
     }
@@ -199,7 +185,7 @@ public final class EdgeWayTest {
     private static void stand() {
         check.says(16, "The STAND of a PEDAL of THE WAY at a BEAT.");
         for (int stand = 0; stand < 3; stand++) {
-            SevenPedals x = started(stand);
+            SevenPedals x = Given.started(stand);
             for (int p = 0; p < 7; p++) {
                 check.due("pedal " + p, x.stand(0, p), stand);
                 check.due("pedal " + p + " at the last", x.stand(7, p), stand);
@@ -207,10 +193,10 @@ public final class EdgeWayTest {
         }
         check.says(16, "BEYOND.");
         SevenPedals x = new SevenPedals();
-        for (int beat : NO_BEATS) {
+        for (int beat : Given.NO_BEATS) {
             check.due("beat " + beat, x.stand(beat, 0), Check.BEYOND);
         }
-        for (int pedal : NO_PEDALS) {
+        for (int pedal : Given.NO_PEDALS) {
             check.due("pedal " + pedal, x.stand(0, pedal), Check.BEYOND);
         }
         check.due("beat 8 is not played", x.stand(8, 0), Check.BEYOND);
@@ -218,7 +204,7 @@ public final class EdgeWayTest {
         x.beats(12);
         check.due("now it is", x.stand(11, 6), 0);
         check.says(16, "NONE.");
-        x.note(11, 0, TOO_HIGH, false);
+        x.note(11, 0, Given.TOO_HIGH, false);
         check.due("no way", x.stand(0, 0), Check.NONE);
         check.due("BEYOND goes first, pedal", x.stand(0, 7), Check.BEYOND);
         check.due("BEYOND goes first, beat", x.stand(12, 0), Check.BEYOND);
@@ -229,7 +215,7 @@ public final class EdgeWayTest {
             + "-1 (no finding): none.");
         for (int p = 0; p < 7; p++) {
             boolean right = p > 1 && p < 6;
-            SevenPedals x = started(0);
+            SevenPedals x = Given.started(0);
             x.mark(0, p, 2);
             x.mark(1, p, 1);
             check.due("to beat 0, pedal " + p, x.foot(0, right), p);
@@ -253,7 +239,7 @@ public final class EdgeWayTest {
         x.beats(12);
         check.due("beat 11", x.foot(11, true), -1);
         check.says(17, "NONE.");
-        x.note(0, 0, TOO_HIGH, false);
+        x.note(0, 0, Given.TOO_HIGH, false);
         check.due("no way, left", x.foot(0, false), Check.NONE);
         check.due("no way, right", x.foot(11, true), Check.NONE);
         check.due("BEYOND goes first", x.foot(12, true), Check.BEYOND);
@@ -274,7 +260,7 @@ public final class EdgeWayTest {
 
     private static void waysUpToAMillion() {
         check.says(18, "How many WAYS have as few MOVES; 1000000 if there are more.");
-        SevenPedals x = started(0);
+        SevenPedals x = Given.started(0);
         x.beats(12);
         int slot = windows(x, LEFT, 0, 1, 2, 3, 3);
         check.due("windows of 2, 3 and 3", x.ways(), 2 * 2 * 1);
@@ -283,7 +269,7 @@ public final class EdgeWayTest {
         windows(x, RIGHT, 0, 1, 11, 11, 11, 12);
         check.due("below a million", x.ways(), 997920);
         check.due("its moves", x.moves(), 10);
-        SevenPedals y = started(0);
+        SevenPedals y = Given.started(0);
         y.beats(12);
         windows(y, LEFT, 0, 1, 5, 6, 7);
         check.due("windows of 5, 6 and 7", y.ways(), 125);
@@ -296,14 +282,14 @@ public final class EdgeWayTest {
 
     private static void waysBeyondAMillion() {
         check.says(18, "1000000 if there are more.");
-        SevenPedals x = started(0);
+        SevenPedals x = Given.started(0);
         x.beats(12);
         int slot = windows(x, LEFT, 0, 1, 2, 3, 3);
         windows(x, LEFT, slot, 2, 1, 8, 9);
         check.due("196", x.ways(), 4 * 1 * 7 * 7);
         windows(x, RIGHT, 0, 1, 7, 10, 11, 12);
         check.due("1000188", x.ways(), 1000000);
-        SevenPedals y = started(0);
+        SevenPedals y = Given.started(0);
         y.beats(12);
         for (int p = 0; p < 7; p++) {
             y.mark(11, p, 1);
@@ -319,7 +305,7 @@ public final class EdgeWayTest {
     private static void ways() {
         check.says(18, "NONE.");
         SevenPedals x = new SevenPedals();
-        x.note(0, 0, TOO_HIGH, false);
+        x.note(0, 0, Given.TOO_HIGH, false);
         check.due("no way", x.ways(), Check.NONE);
         x.drop(0);
         check.due("all diagrams", x.ways(), 2187);
@@ -340,11 +326,11 @@ public final class EdgeWayTest {
         SevenPedals x = new SevenPedals();
         check.due("there is", x.stuck(), -1);
         x.beats(1);
-        x.note(0, 0, TOO_HIGH, false);
+        x.note(0, 0, Given.TOO_HIGH, false);
         check.due("0, the only beat", x.stuck(), 0);
         x.drop(0);
         x.beats(12);
-        x.note(11, 0, TOO_HIGH, false);
+        x.note(11, 0, Given.TOO_HIGH, false);
         check.due("11, the last of all", x.stuck(), 11);
         x.beats(11);
         check.due("it is not played", x.stuck(), -1);
@@ -354,7 +340,7 @@ public final class EdgeWayTest {
     private static void without() {
         check.says(20, "How many MOVES fewer THE WAY would take if a MARK were gone.");
         for (int stand = 0; stand < 3; stand++) {
-            SevenPedals x = started(stand);
+            SevenPedals x = Given.started(stand);
             x.mark(3, 6, stand);
             check.due("as it stands", x.without(3, 6), 0);
             x.mark(3, 6, (stand + 1) % 3);
@@ -365,7 +351,7 @@ public final class EdgeWayTest {
             check.due("the marks stay", x.all(2), 2);
             check.due("the moves, too", x.moves(), 2);
         }
-        SevenPedals x = started(0);
+        SevenPedals x = Given.started(0);
         x.beats(12);
         x.mark(0, 0, 1);
         x.mark(11, 3, 1);
@@ -377,7 +363,7 @@ public final class EdgeWayTest {
         check.due("a mark at a beat that is not played", x.without(11, 3), 0);
         check.due("one that is", x.without(10, 3), 1);
         x.mark(11, 4, 2);
-        x.note(11, 0, TOO_HIGH, false);
+        x.note(11, 0, Given.TOO_HIGH, false);
         check.due("whatever else is there", x.without(11, 3), 0);
         x.beats(1);
         check.due("at the only one", x.without(0, 0), 1);
@@ -387,11 +373,11 @@ public final class EdgeWayTest {
     private static void withoutFindings() {
         check.says(20, "BEYOND: no such BEAT, or PEDAL.");
         SevenPedals x = new SevenPedals();
-        x.note(0, 0, TOO_HIGH, false);
-        for (int beat : NO_BEATS) {
+        x.note(0, 0, Given.TOO_HIGH, false);
+        for (int beat : Given.NO_BEATS) {
             check.due("beat " + beat, x.without(beat, 0), Check.BEYOND);
         }
-        for (int pedal : NO_PEDALS) {
+        for (int pedal : Given.NO_PEDALS) {
             check.due("pedal " + pedal, x.without(0, pedal), Check.BEYOND);
             check.due("pedal " + pedal + " of the last beat", x.without(11, pedal), Check.BEYOND);
         }
@@ -411,7 +397,7 @@ public final class EdgeWayTest {
 
     private static void withoutNone() {
         check.says(20, "NONE: there is no WAY (now).");
-        SevenPedals x = started(0);
+        SevenPedals x = Given.started(0);
         x.mark(0, 0, 1);
         x.mark(0, 1, 1);
         check.due("though there were one without it", x.without(0, 1), Check.NONE);
@@ -424,7 +410,7 @@ public final class EdgeWayTest {
 
     /** D and A ring at beats 0 and 1, each on one string alone: a pedal of each foot is locked. */
     private static SevenPedals locked() {
-        SevenPedals x = started(1);
+        SevenPedals x = Given.started(1);
         x.beats(4);
         for (int b = 0; b < 2; b++) {
             x.note(b, 0, 26, true);
@@ -478,7 +464,7 @@ public final class EdgeWayTest {
     /** What was asked ahead of a change must not be told behind it. */
     private static void nothingStale() {
         check.says(20, "How many MOVES fewer THE WAY would take if a MARK were gone.");
-        SevenPedals x = started(1);
+        SevenPedals x = Given.started(1);
         x.note(0, 0, 26, false);
         x.mark(3, 1, 2);
         check.due("D, then D sharp", x.without(3, 1), 1);
@@ -534,11 +520,11 @@ public final class EdgeWayTest {
     private static void splitFindings() {
         check.says(21, "BEYOND.");
         SevenPedals x = new SevenPedals();
-        x.note(0, 0, TOO_HIGH, false);
-        for (int beat : NO_BEATS) {
+        x.note(0, 0, Given.TOO_HIGH, false);
+        for (int beat : Given.NO_BEATS) {
             check.due("beat " + beat, x.split(beat, 0), Check.BEYOND);
         }
-        for (int diagram : NO_DIAGRAMS) {
+        for (int diagram : Given.NO_DIAGRAMS) {
             check.due("BEYOND goes ahead of KIND, diagram " + diagram, x.split(0, diagram), Check.BEYOND);
         }
         check.says(21, "KIND: the DIAGRAM does not DO.");
@@ -595,7 +581,7 @@ public final class EdgeWayTest {
         check.says(22, "NONE: there is no WAY.");
         SevenPedals x = new SevenPedals();
         writeHard(x, 0);
-        x.note(7, 0, TOO_HIGH, false);
+        x.note(7, 0, Given.TOO_HIGH, false);
         check.due("though beat 0 is hard", x.hard(), Check.NONE);
         check.due("a finding", x.all(3), 1);
         x.beats(7);

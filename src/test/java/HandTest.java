@@ -12,61 +12,47 @@ public final class HandTest {
         check.end();
     }
 
-    /** White keys of the lowest octaves: string s with every pedal at stand 1. */
-    private static int natural(int string) {
-        int[] naturals = {0, 2, 4, 5, 7, 9, 11};
-        return 12 * (string / 7) + naturals[string % 7];
-    }
-
-    private static SevenPedals chord(int... strings) {
-        SevenPedals x = new SevenPedals();
-        for (int s : strings) {
-            x.note(0, 0, natural(s), false);
-        }
-        return x;
-    }
-
     private static void splitByFingers() {
-        check.due("21 no string", chord().split(0, 1093), 0);
-        check.due("21 four for the right", chord(10, 11, 12, 13).split(0, 1093), 0);
-        check.due("21 five", chord(10, 11, 12, 13, 14).split(0, 1093), 1);
-        check.due("21 six", chord(10, 11, 12, 13, 14, 15).split(0, 1093), 2);
-        check.due("21 six in another order", chord(15, 10, 13, 11, 14, 12).split(0, 1093), 2);
-        SevenPedals x = chord(10, 11);
-        x.note(0, 1, natural(12) + 12, false);
+        check.due("21 no string", Given.chord().split(0, 1093), 0);
+        check.due("21 four for the right", Given.chord(10, 11, 12, 13).split(0, 1093), 0);
+        check.due("21 five", Given.chord(10, 11, 12, 13, 14).split(0, 1093), 1);
+        check.due("21 six", Given.chord(10, 11, 12, 13, 14, 15).split(0, 1093), 2);
+        check.due("21 six in another order", Given.chord(15, 10, 13, 11, 14, 12).split(0, 1093), 2);
+        SevenPedals x = Given.chord(10, 11);
+        x.note(0, 1, Given.natural(12) + 12, false);
         check.due("21 a harmonic takes two", x.split(0, 1093), 0);
-        x.note(0, 2, natural(13), false);
+        x.note(0, 2, Given.natural(13), false);
         check.due("21 a muted one takes one", x.split(0, 1093), 1);
-        x = chord();
+        x = Given.chord();
         for (int s = 10; s < 14; s++) {
-            x.note(0, 3, natural(s) + 19, false);
+            x.note(0, 3, Given.natural(s) + 19, false);
         }
         check.due("21 four high ones, two a hand", x.split(0, 1093), 2);
-        x.note(0, 0, natural(14), false);
+        x.note(0, 0, Given.natural(14), false);
         check.due("21 nine fingers", x.split(0, 1093), Check.NONE);
-        x = chord(14);
+        x = Given.chord(14);
         for (int s = 10; s < 13; s++) {
-            x.note(0, 1, natural(s) + 12, false);
+            x.note(0, 1, Given.natural(s) + 12, false);
         }
         check.due("21 fingers go with their strings", x.split(0, 1093), 2);
-        x = chord(9, 10, 11);
-        x.note(0, 1, natural(12) + 12, false);
-        x.note(0, 1, natural(13) + 12, false);
+        x = Given.chord(9, 10, 11);
+        x.note(0, 1, Given.natural(12) + 12, false);
+        x.note(0, 1, Given.natural(13) + 12, false);
         check.due("21 three and two harmonics", x.split(0, 1093), 3);
     }
 
     private static void splitBySpan() {
-        check.due("21 a span of 9", chord(10, 19).split(0, 1093), 0);
-        check.due("21 a span of 10", chord(10, 20).split(0, 1093), 1);
-        check.due("21 both hands wide", chord(0, 9, 10, 19).split(0, 1093), 2);
-        check.due("21 no hand reaches", chord(0, 10, 20).split(0, 1093), Check.NONE);
-        check.due("21 the left hand, too", chord(0, 10, 11, 12, 13, 14).split(0, 1093), Check.NONE);
-        check.due("21 the left hand takes more", chord(0, 9, 18, 27).split(0, 1093), 2);
-        check.due("21 far up", chord(41, 32, 31).split(0, 1093), 1);
+        check.due("21 a span of 9", Given.chord(10, 19).split(0, 1093), 0);
+        check.due("21 a span of 10", Given.chord(10, 20).split(0, 1093), 1);
+        check.due("21 both hands wide", Given.chord(0, 9, 10, 19).split(0, 1093), 2);
+        check.due("21 no hand reaches", Given.chord(0, 10, 20).split(0, 1093), Check.NONE);
+        check.due("21 the left hand, too", Given.chord(0, 10, 11, 12, 13, 14).split(0, 1093), Check.NONE);
+        check.due("21 the left hand takes more", Given.chord(0, 9, 18, 27).split(0, 1093), 2);
+        check.due("21 far up", Given.chord(41, 32, 31).split(0, 1093), 1);
     }
 
     private static void splitFindings() {
-        SevenPedals x = chord(0);
+        SevenPedals x = Given.chord(0);
         check.due("21 KIND", x.split(0, 0), Check.KIND);
         check.due("21 beat 12", x.split(12, 0), Check.BEYOND);
         check.due("21 beat -1", x.split(-1, 0), Check.BEYOND);
@@ -82,20 +68,20 @@ public final class HandTest {
         check.due("22 none", x.hard(), -1);
         check.due("22 -1 is no finding", x.all(3), 0);
         // D and G sound on one string alone, whatever the diagram
-        x.note(5, 0, natural(1), false);
-        x.note(5, 0, natural(11), false);
-        x.note(5, 0, natural(22), false);
+        x.note(5, 0, Given.natural(1), false);
+        x.note(5, 0, Given.natural(11), false);
+        x.note(5, 0, Given.natural(22), false);
         check.due("22 at beat 5", x.hard(), 5);
-        x.note(3, 0, natural(1), false);
-        x.note(3, 0, natural(11), false);
+        x.note(3, 0, Given.natural(1), false);
+        x.note(3, 0, Given.natural(11), false);
         check.due("22 two hands are enough", x.hard(), 5);
-        x.note(3, 0, natural(22), false);
+        x.note(3, 0, Given.natural(22), false);
         check.due("22 the first of two", x.hard(), 3);
         x.beats(3);
         check.due("22 only beats that are played", x.hard(), -1);
-        x.note(0, 0, natural(1), false);
-        x.note(0, 0, natural(11), false);
-        x.note(0, 0, natural(22), false);
+        x.note(0, 0, Given.natural(1), false);
+        x.note(0, 0, Given.natural(11), false);
+        x.note(0, 0, Given.natural(22), false);
         check.due("22 at beat 0", x.hard(), 0);
         x.note(0, 0, 100, false);
         check.due("22 NONE", x.hard(), Check.NONE);
@@ -104,8 +90,8 @@ public final class HandTest {
     private static void run() {
         SevenPedals x = new SevenPedals();
         for (int i = 0; i < 42; i++) {
-            check.due("23 up", x.run(0, 41, 1093, i), natural(i));
-            check.due("23 down", x.run(41, 0, 2186, i), natural(41 - i) + 1);
+            check.due("23 up", x.run(0, 41, 1093, i), Given.natural(i));
+            check.due("23 down", x.run(41, 0, 2186, i), Given.natural(41 - i) + 1);
         }
         check.due("23 one string", x.run(7, 7, 1093, 0), 12);
         check.due("23 no second", x.run(7, 7, 1093, 1), Check.BEYOND);

@@ -18,16 +18,8 @@ public final class WayTest {
         check.end();
     }
 
-    private static SevenPedals withAllStarts(int stand) {
-        SevenPedals x = new SevenPedals();
-        for (int p = 0; p < 7; p++) {
-            x.start(p, stand);
-        }
-        return x;
-    }
-
     private static void moves() {
-        SevenPedals x = withAllStarts(1);
+        SevenPedals x = Given.started(1);
         check.due("14 nothing to move", x.moves(), 0);
         x.mark(0, 0, 2);
         check.due("14 one to beat 0", x.moves(), 1);
@@ -54,7 +46,7 @@ public final class WayTest {
     }
 
     private static void ringing() {
-        SevenPedals x = withAllStarts(1);
+        SevenPedals x = Given.started(1);
         x.beats(2);
         x.note(0, 0, 26, true);
         x.mark(1, 1, 0);
@@ -71,12 +63,12 @@ public final class WayTest {
         check.due("14 one beat later it may", x.moves(), 1);
         check.due("17 and does", x.foot(2, false), 1);
         check.due("17 not ahead", x.foot(1, false), -1);
-        SevenPedals y = withAllStarts(1);
+        SevenPedals y = Given.started(1);
         y.beats(2);
         y.note(0, 2, 26, true);
         y.mark(1, 1, 0);
         check.due("14 a muted one never rings", y.moves(), 1);
-        SevenPedals z = withAllStarts(1);
+        SevenPedals z = Given.started(1);
         z.beats(2);
         z.note(0, 3, 26 + 19, true);
         z.mark(1, 1, 0);
@@ -140,7 +132,7 @@ public final class WayTest {
         int[] right = {2, 3, 4, 5};
         for (int p : left) {
             for (int q : right) {
-                SevenPedals x = withAllStarts(1);
+                SevenPedals x = Given.started(1);
                 x.mark(0, p, 0);
                 x.mark(0, q, 2);
                 x.mark(1, p, 2);
@@ -169,7 +161,7 @@ public final class WayTest {
         check.due("18 each diagram, unmoved", x.ways(), 2187);
         x.start(0, 1);
         check.due("18 those that start tells", x.ways(), 729);
-        x = withAllStarts(1);
+        x = Given.started(1);
         check.due("18 one", x.ways(), 1);
         x.mark(7, 0, 2);
         check.due("18 the move at any of 8 beats", x.ways(), 8);
@@ -212,7 +204,7 @@ public final class WayTest {
         check.due("19 at the last", x.stuck(), 7);
         x.beats(7);
         check.due("19 that is not played", x.stuck(), -1);
-        x = withAllStarts(1);
+        x = Given.started(1);
         x.mark(0, 6, 0);
         x.mark(0, 0, 0);
         check.due("19 not from start", x.stuck(), 0);
@@ -231,7 +223,7 @@ public final class WayTest {
     }
 
     private static void without() {
-        SevenPedals x = withAllStarts(1);
+        SevenPedals x = Given.started(1);
         x.mark(2, 0, 2);
         x.mark(4, 0, 0);
         x.mark(4, 2, 1);
@@ -263,7 +255,7 @@ public final class WayTest {
     private static void firstAndLastDiagram() {
         for (int stand = 0; stand <= 2; stand += 2) {
             int diagram = stand == 0 ? 0 : 2186;
-            SevenPedals x = withAllStarts(stand);
+            SevenPedals x = Given.started(stand);
             x.beats(4);
             for (int b = 0; b < 4; b++) {
                 for (int p = 0; p < 7; p++) {
@@ -308,7 +300,7 @@ public final class WayTest {
 
     /** Answers that are kept inside must go with each change that concerns them. */
     private static void afterChanges() {
-        SevenPedals x = withAllStarts(1);
+        SevenPedals x = Given.started(1);
         check.due("moves", x.moves(), 0);
         x.note(11, 0, 24, false);
         x.beats(12);
