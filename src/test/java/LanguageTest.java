@@ -8,7 +8,9 @@ import java.nio.file.Files;
 import java.nio.file.Path;
 import java.util.ArrayList;
 import java.util.List;
+import java.util.Map;
 import java.util.Set;
+import java.util.TreeMap;
 import java.util.TreeSet;
 import java.util.regex.Matcher;
 import java.util.regex.Pattern;
@@ -36,6 +38,8 @@ public final class LanguageTest {
         nested();
         words();
         lengths();
+        order();
+        depth();
         whatARunMakes();
         check.end();
     }
@@ -121,6 +125,69 @@ public final class LanguageTest {
                 begun = 0;
             }
         }
+    }
+
+    /** What the document says of the interface: which calls stand behind which words, in its order. */
+    private static void order() throws IOException {
+        check.says(0, "Ahead of the calls `beats`, `note`, `drop`, `as`, `of`, `shift`, `mark`, `start` the interface says: ---- the part.");
+        section("the part", "diagrams", "beats", "note", "drop", "as", "of", "shift", "mark", "start");
+        check.says(0, "Ahead of the calls `pitch`, `string`, `does`, `many` the interface says: ---- diagrams.");
+        section("diagrams", "the way", "pitch", "string", "does", "many");
+        check.says(0, "Ahead of the calls `moves`, `diagram`, `stand`, `foot`, `ways`, `stuck`, `without` the interface says: ---- the way.");
+        section("the way", "hands, runs", "moves", "diagram", "stand", "foot", "ways", "stuck", "without");
+        check.says(0, "Ahead of the calls `split`, `hard`, `run`, `plain` the interface says: ---- hands, runs.");
+        section("hands, runs", "sheets, the whole", "split", "hard", "run", "plain");
+        check.says(0, "Ahead of the calls `sheet`, `put`, `copy`, `tune`, `undo`, `all` the interface says: ---- sheets, the whole.");
+        section("sheets, the whole", "what every act asks", "sheet", "put", "copy", "tune", "undo", "all");
+        check.says(0, "");
+    }
+
+    private static void section(String words, String end, String... calls) throws IOException {
+        String text = Files.readString(Path.of("src/main/java/SevenPedals.java"));
+        int from = text.indexOf("    // ---- " + words + "\n");
+        int to = text.indexOf("    // ---- " + end + "\n");
+        boolean stands = from >= 0 && from < to;
+        check.that(words + " stands ahead of " + end, stands);
+        List<String> seen = new ArrayList<>();
+        Matcher faces = Pattern.compile("\n    public int (\\w+)\\(").matcher(stands ? text.substring(from, to) : "");
+        while (faces.find()) {
+            seen.add(faces.group(1));
+        }
+        check.that(words + " has the calls " + seen, seen.equals(List.of(calls)));
+    }
+
+    /** By names alone, so a chain may look longer than it is, never shorter. */
+    private static void depth() throws IOException {
+        Map<String, Set<String>> calls = new TreeMap<>();
+        Set<String> body = null;
+        for (String line : source().split("\n")) {
+            Matcher head = Pattern.compile(" {4,8}\\w[\\w\\[\\] ]*?(\\w+)\\([^()]*\\) \\{").matcher(line);
+            if (head.matches()) {
+                body = calls.computeIfAbsent(head.group(1), k -> new TreeSet<>());
+                continue;
+            }
+            Matcher call = Pattern.compile("(\\w+)\\(").matcher(line);
+            while (body != null && call.find()) {
+                body.add(call.group(1));
+            }
+        }
+        for (String s : FACE) {
+            String name = s.substring(4, s.indexOf('('));
+            check.that("rule 11: the source has " + name, calls.containsKey(name));
+            int deep = deepest(name, calls, 0);
+            check.that("rule 11: " + name + " goes " + deep + " deep", deep <= 8);
+        }
+    }
+
+    private static int deepest(String name, Map<String, Set<String>> calls, int above) {
+        int deep = above + 1;
+        if (deep > 20 || !calls.containsKey(name)) {
+            return calls.containsKey(name) ? deep : above;
+        }
+        for (String next : calls.get(name)) {
+            deep = Math.max(deep, deepest(next, calls, above + 1));
+        }
+        return deep;
     }
 
     /** Nothing is made behind the constructor, whatever is asked. */
